@@ -100,7 +100,7 @@ public final class CanalTurns {
             case 1:
                 return canal.shares[field];
             case 2:
-                return canal.away[field] ? 1 : 0;
+                return canal.isAway(field) ? 1 : 0;
             case 3:
                 return turnsNow().have[field];
             case 4:
@@ -214,7 +214,7 @@ public final class CanalTurns {
         if (!isWithin(h, 1, MOST_HOURS)) {
             return BAD;
         }
-        if (canal.away[a] || canal.away[b] || turnsNow().have[a] < h) {
+        if (canal.isAway(a) || canal.isAway(b) || turnsNow().have[a] < h) {
             return STATE;
         }
         return canal.trades.add(a, b, h);
@@ -611,7 +611,7 @@ public final class CanalTurns {
         int most = NOT_ANY;
         int fewest = NOT_ANY;
         for (int f = 0; f < canal.size; f++) {
-            if (!canal.away[f]) {
+            if (!canal.isAway(f)) {
                 most = most == NOT_ANY ? tally[f] : Math.max(most, tally[f]);
                 fewest = fewest == NOT_ANY ? tally[f] : Math.min(fewest, tally[f]);
             }
@@ -637,7 +637,7 @@ public final class CanalTurns {
     private static int firstOtherwise(Rows rows, Turns as) {
         for (int k = 0; k < rows.size; k++) {
             int f = rows.first[k];
-            if (!isWithin(f, 0, FIELDS - 1) || as.have[f] != rows.second[k]) {
+            if (as.have[f] != rows.second[k]) {
                 return k;
             }
         }
@@ -647,9 +647,7 @@ public final class CanalTurns {
     private void goOn(int what, int n) {
         switch (what) {
             case PLAN_ABSENT:
-                if (trial.hasField(n)) {
-                    trial.setAway(n, !trial.away[n]);
-                }
+                trial.setAway(n, !trial.isAway(n));
                 break;
             case PLAN_WEEKS:
                 trial.passWeeks(Math.min(n, MOST_WEEK - trial.week));
@@ -701,8 +699,8 @@ public final class CanalTurns {
         final int[] losses = new int[REACHES];
         final int[] reachOfField = new int[FIELDS];
         final int[] shares = new int[FIELDS];
-        final boolean[] away = new boolean[FIELDS];
         final Rows trades = new Rows(TRADES);
+        int awayBits = 0;
         int size = 0;
         int weekHours = 24;
         int week = 0;
@@ -720,8 +718,8 @@ public final class CanalTurns {
             System.arraycopy(other.losses, 0, losses, 0, REACHES);
             System.arraycopy(other.reachOfField, 0, reachOfField, 0, FIELDS);
             System.arraycopy(other.shares, 0, shares, 0, FIELDS);
-            System.arraycopy(other.away, 0, away, 0, FIELDS);
             trades.copyFrom(other.trades);
+            awayBits = other.awayBits;
             size = other.size;
             weekHours = other.weekHours;
             week = other.week;
@@ -746,12 +744,8 @@ public final class CanalTurns {
             return (1 << size) - 1;
         }
 
-        int presentBits() {
-            int bits = 0;
-            for (int f = 0; f < size; f++) {
-                bits |= away[f] ? 0 : 1 << f;
-            }
-            return bits;
+        boolean isAway(int f) {
+            return isBit(awayBits, f);
         }
 
         int bitsOn(int r) {
@@ -780,7 +774,7 @@ public final class CanalTurns {
             }
             reachOfField[size] = r;
             shares[size] = s;
-            away[size] = false;
+            awayBits &= ~(1 << size);
             trades.size = 0;
             size++;
             return size - 1;
@@ -826,12 +820,12 @@ public final class CanalTurns {
             return 0;
         }
 
-        int setAway(int f, boolean isAway) {
+        int setAway(int f, boolean isAbsent) {
             if (!hasField(f)) {
                 return NONE;
             }
-            int was = away[f] ? 1 : 0;
-            away[f] = isAway;
+            int was = isAway(f) ? 1 : 0;
+            awayBits = isAbsent ? awayBits | 1 << f : awayBits & ~(1 << f);
             trades.size = 0;
             return was;
         }
@@ -934,7 +928,7 @@ public final class CanalTurns {
             }
             for (int k = 0; k < fields; k++) {
                 int f = standing[comesAt(k, week, byRule)];
-                if (!canal.away[f]) {
+                if (!canal.isAway(f)) {
                     order[count] = f;
                     places[f] = count;
                     count++;
@@ -978,21 +972,20 @@ public final class CanalTurns {
         private void giveHours(Canal canal) {
             shareOut(canal, left, canal.allBits());
             System.arraycopy(parts, 0, have, 0, FIELDS);
-            int present = canal.presentBits();
+            int present = canal.allBits() & ~canal.awayBits;
             for (int f = 0; f < fields; f++) {
-                if (canal.away[f]) {
-                    handOn(canal, f, present);
+                if (canal.isAway(f)) {
+                    int near = canal.bitsOn(canal.reachOfField[f]) & present;
+                    shareOut(canal, have[f], near != 0 ? near : present);
+                    have[f] = 0;
+                    addParts();
                 }
             }
         }
 
-        private void handOn(Canal canal, int f, int present) {
-            int near = canal.bitsOn(canal.reachOfField[f]) & present;
-            int hours = have[f];
-            have[f] = 0;
-            shareOut(canal, hours, near != 0 ? near : present);
-            for (int other = 0; other < fields; other++) {
-                have[other] += parts[other];
+        private void addParts() {
+            for (int f = 0; f < fields; f++) {
+                have[f] += parts[f];
             }
         }
 
@@ -1116,7 +1109,7 @@ public final class CanalTurns {
     private static final class SetUp {
         private final byte[] text = new byte[TEXT_BYTES];
         int size = 0;
-        final char[] letters = new char[CLAUSES];
+        final int[] letters = new int[CLAUSES];
         final int[][] numbers = new int[3][CLAUSES];
         int clauses = 0;
         private int at = 0;
@@ -1158,7 +1151,7 @@ public final class CanalTurns {
             if (at >= size) {
                 return false;
             }
-            char letter = (char) text[at];
+            int letter = text[at];
             int howMany = numbersOf(letter);
             if (howMany == 0) {
                 return false;
@@ -1178,7 +1171,7 @@ public final class CanalTurns {
             return true;
         }
 
-        private static int numbersOf(char letter) {
+        private static int numbersOf(int letter) {
             switch (letter) {
                 case 'f':
                     return 2;
@@ -1195,7 +1188,7 @@ public final class CanalTurns {
         }
 
         /** LOSS and HOURS, which may have two digits, stand last. */
-        private static boolean isLastLong(char letter) {
+        private static boolean isLastLong(int letter) {
             return letter == 'c' || letter == 'h';
         }
 
