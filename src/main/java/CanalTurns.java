@@ -519,7 +519,7 @@ public final class CanalTurns {
 
     /** NO, if nothing stands below the line or there is no such part. */
     private static long partOfFraction(int above, int below, int part) {
-        if (below <= 0 || above < 0 || !isWithin(part, 0, 1)) {
+        if (below <= 0 || !isWithin(part, 0, 1)) {
             return NO;
         }
         int divisor = commonDivisor(above, below);

@@ -223,5 +223,12 @@ public final class FieldsTest {
         due.is("SHARED OUT again", y.of(0, 3), 6);
         due.is("SHARED OUT again", y.of(1, 3), 0);
         due.is("SHARED OUT again", y.of(2, 3), 4);
+        y.absent(1, false);
+        y.absent(2, true);
+        y.hours(11);
+        // 4, 4, 3; the rest of what the ABSENT one has is not its own.
+        due.is("SHARED OUT again", y.of(0, 3), 6);
+        due.is("SHARED OUT again", y.of(1, 3), 5);
+        due.is("SHARED OUT again", y.of(2, 3), 0);
     }
 }

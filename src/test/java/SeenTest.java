@@ -125,6 +125,9 @@ public final class SeenTest {
         }
         due.is("mean(0), all ABSENT", x.mean(0), 0);
         due.is("mean(1), all ABSENT", x.mean(1), 1);
+        CanalTurns one = Setups.flat(1);
+        due.is("mean(0), one", one.mean(0), 24 * 95);
+        due.is("mean(1), one", one.mean(1), 1);
         CanalTurns y = new CanalTurns();
         due.is("mean(0), no FIELDS", y.mean(0), CanalTurns.NO);
         due.is("mean(1), no FIELDS", y.mean(1), CanalTurns.NO);

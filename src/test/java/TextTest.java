@@ -50,6 +50,10 @@ public final class TextTest {
         due.is("RULE", x.told(2), 3);
         due.is("ABSENT", x.of(0, 2), 1);
         due.is("ABSENT", x.of(1, 2), 0);
+        due.is("nothing of it is left", x.read(), -10);
+        due.is("u1;u2", Setups.read(x, "u1;u2"), 2);
+        due.is("nothing of it is left", Setups.read(x, "u3;"), -13);
+        due.is("RULE", x.told(2), 2);
         due.is("h96", Setups.read(x, "h96"), 1);
         due.is("HOURS", x.told(1), 96);
         due.is("c000", Setups.read(x, "c000;c1905"), 2);

@@ -12,6 +12,7 @@ public final class TradesTest {
         overWeeks();
         overTheLastWeek();
         evenness();
+        evenestIsTheLast();
         due.end();
     }
 
@@ -227,6 +228,31 @@ public final class TradesTest {
         due.is("over(2, 1, 1)", x.over(2, 1, 1), 1);
         due.is("over(2, 2, 1)", x.over(2, 2, 1), 6);
         due.is("over(2, 3, 1)", x.over(2, 3, 1), 7);
+    }
+
+    /**
+     * HAVE 4, 2, 2 of 8; in WEEK 1 from 8 o'clock on, in WEEK 2 from 16 on, so that all NIGHT is the last 6 hours of
+     * WEEK 2: by RULE 3 the TURNS are 0, 2, 1 then, by the others 1, 0, 2 or 2, 1, 0.
+     */
+    private static void evenestIsTheLast() {
+        CanalTurns x = Setups.flat(2, 1, 1);
+        x.renew(0, 0, 1);
+        x.renew(2, 0, 1);
+        x.reach(1, 0, 0);
+        x.hours(8);
+        x.pass(1);
+        int[] uneven = {4, 4, 4, 0};
+        for (int rule = 0; rule < 4; rule++) {
+            x.rule(rule);
+            due.is("uneven(2), RULE " + rule, x.uneven(2), uneven[rule]);
+            due.is("uneven(1), RULE " + rule, x.uneven(1), 0);
+        }
+        due.is("evenest(2)", x.evenest(2), 3);
+        due.is("evenest(1)", x.evenest(1), 0);
+        x.rule(0);
+        due.is("over(0, 2, 1)", x.over(0, 2, 1), 4);
+        due.is("over(1, 2, 1)", x.over(1, 2, 1), 0);
+        due.is("over(2, 2, 1)", x.over(2, 2, 1), 2);
     }
 
     private static void evenness() {

@@ -216,5 +216,9 @@ public final class TurnsTest {
         due.is("LESS", y.told(11), 1);
         y.absent(0, true);
         due.is("LESS, ABSENT", y.told(11), 0);
+        // 4, 2, 1, 1, 1 of 9; 5, 3, 0, 2, 0 of 10.
+        CanalTurns z = Setups.flat(9, 5, 1, 3, 1);
+        z.hours(9);
+        due.is("LESS, two", z.told(11), 4 + 16);
     }
 }
