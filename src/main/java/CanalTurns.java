@@ -608,6 +608,7 @@ public final class CanalTurns {
                 tally[f] += turns.nightHours(f);
             }
         }
+        // Where all are ABSENT both stay as they begin, and nothing is uneven.
         int most = NOT_ANY;
         int fewest = NOT_ANY;
         for (int f = 0; f < canal.size; f++) {

@@ -34,18 +34,24 @@ public final class LanguageTest {
         due.end();
     }
 
-    /** Members of the class stand 4 in, those of the classes inside 8 in. */
+    /** Methods of the class stand 4 in, those of the classes inside 8 in. */
     private static void lengths(Due due, List<String> lines) {
-        int begun = 0;
+        int methods = 0;
         for (int i = 0; i < lines.size(); i++) {
             String line = lines.get(i);
             due.holds("line " + (i + 1) + " is too long", line.length() <= 120);
-            if (line.matches("( {4}| {8})[\\w\\[\\]]+[^=;]*\\(.*\\) \\{") && !line.matches(" *(if|for|while|switch).*")) {
-                begun = i;
-            }
-            if (line.matches("( {4}| {8})\\}")) {
-                due.holds("lines " + (begun + 1) + " to " + (i + 1), i - begun < 60 || line.startsWith("    }"));
+            boolean isMethod = line.matches("( {4}| {8})[A-Za-z].*\\(.*\\) \\{")
+                && !line.matches(" *(if|for|while|switch)\\b.*");
+            if (isMethod) {
+                methods++;
+                String end = line.replaceAll("^( *).*", "$1}");
+                int last = i;
+                while (last < lines.size() && !lines.get(last).equals(end)) {
+                    last++;
+                }
+                due.holds("lines " + (i + 1) + " to " + (last + 1) + " are a long method", last - i < 60);
             }
         }
+        due.holds("methods were found", methods > 80);
     }
 }
