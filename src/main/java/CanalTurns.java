@@ -500,7 +500,7 @@ public final class CanalTurns {
         if (from.sort != to.sort) {
             return CAST;
         }
-        if (n < 0 || !from.hasStretch(i, n) || !to.hasStretch(j, n)) {
+        if (!from.hasStretch(i, n) || !to.hasStretch(j, n)) {
             return PLACE;
         }
         System.arraycopy(from.items, i, to.items, j, n);
