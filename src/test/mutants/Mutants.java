@@ -39,7 +39,8 @@ public final class Mutants {
         {"return NONE;", "return BAD;"}, {"return BAD;", "return NONE;"}, {"return STATE;", "return BAD;"},
         {"return FULL;", "return BAD;"}, {"return NOTHING;", "return PLACE;"}, {"return CAST;", "return NOTHING;"},
         {"return PLACE;", "return NOTHING;"}, {"return SIZE;", "return BAD;"}, {"return NO;", "return 0;"},
-        {"return NOT_ANY;", "return NONE;"}, {"? ", "? -1 + "}, {"if (", "if (false && "}, {"if (", "if (true || "}};
+        {"return NOT_ANY;", "return NONE;"}, {"? ", "? -1 + "}, {"turnsNow()", "turnsWere(world.canal.weekHours)"},
+        {"if (", "if (false && "}, {"if (", "if (true || "}};
 
     private record Mutant(int line, String was, String is, String source) {
         @Override

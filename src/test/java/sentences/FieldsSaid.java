@@ -340,6 +340,19 @@ final class FieldsSaid extends Said {
             due.is("WATER on REACH 0", x.of(1, 7), 1045);
             due.is("WATER, ABSENT", x.of(2, 7), 0);
         });
+        says("Of a FIELD what", due -> {
+            CanalTurns x = Setups.flat(1, 1);
+            x.trade(0, 1, 2);
+            int[][] want = {{0, 1, 0, 10, 0, 10, 6, 950, 0}, {0, 1, 0, 14, 10, 24, 6, 1330, 1}};
+            for (int f = 0; f < 2; f++) {
+                for (int what = 0; what < 9; what++) {
+                    due.is("of(" + f + ", " + what + "), with a TRADE", x.of(f, what), want[f][what]);
+                }
+            }
+            x.trade(0, 1, 10);
+            due.is("by NIGHT, without hours", x.of(0, 6), 0);
+            due.is("by NIGHT, with all", x.of(1, 6), 12);
+        });
         says("8 which TURN (from 0; -5).", due -> {
             CanalTurns x = oneAway();
             due.is("the second", x.of(0, 8), 1);

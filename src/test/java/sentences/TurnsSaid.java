@@ -88,6 +88,9 @@ final class TurnsSaid extends Said {
             due.is("who(47)", x.who(47), 0);
             due.is("who(48)", x.who(48), 1);
             due.is("who(95)", x.who(95), 1);
+            x.trade(0, 1, 47);
+            due.is("who(0), with a TRADE", x.who(0), 0);
+            due.is("who(1), with a TRADE", x.who(1), 1);
         });
         says("-5: none.", due -> {
             CanalTurns x = Setups.three();
@@ -169,6 +172,15 @@ final class TurnsSaid extends Said {
             x.absent(0, true);
             due.is("LEFT", x.told(5), 24);
             due.is("all hours that FIELDS HAVE, when they are lost", x.told(6), 0);
+        });
+        says("10 all hours by NIGHT,", due -> {
+            // With a LAG of 4 between: from 0 to 10 and from 14 to 24; then from 0 to 20.
+            CanalTurns x = Setups.flat(1, 1);
+            x.renew(1, 0, 1);
+            x.reach(1, 0, 4);
+            due.is("all hours by NIGHT", x.told(10), 12);
+            x.trade(1, 0, 10);
+            due.is("all hours by NIGHT, with a TRADE", x.told(10), 8);
         });
         says("11 LESS.", due -> {
             CanalTurns x = Setups.flat(6, 6, 2);
