@@ -5,9 +5,11 @@ import java.nio.file.Files;
 import java.nio.file.Path;
 import java.util.ArrayList;
 import java.util.HashMap;
+import java.util.HashSet;
 import java.util.LinkedHashMap;
 import java.util.List;
 import java.util.Map;
+import java.util.Set;
 import java.util.concurrent.ExecutorService;
 import java.util.concurrent.Executors;
 import java.util.concurrent.Future;
@@ -31,7 +33,7 @@ import javax.tools.ToolProvider;
  */
 public final class Mutants {
     private static final Path FILE = Path.of("src/main/java/CanalTurns.java");
-    private static final int SECONDS_EACH = 20;
+    private static final int SECONDS_EACH = 20, DOES_NOT_END = -1;
     private static final String[][] SWAPS = {{" < ", " <= "}, {" <= ", " < "}, {" > ", " >= "}, {" >= ", " > "},
         {" == ", " != "}, {" != ", " == "}, {" && ", " || "}, {" || ", " && "}, {" + ", " - "}, {" - ", " + "},
         {" * ", " + "}, {" / ", " * "}, {" % ", " / "}, {" += ", " = "}, {" += ", " -= "}, {" -= ", " += "},
@@ -100,48 +102,48 @@ public final class Mutants {
             thread.setDaemon(true);
             return thread;
         });
-        Map<Mutant, Future<List<String>>> runs = new LinkedHashMap<>();
+        Map<Mutant, Future<List<Integer>>> runs = new LinkedHashMap<>();
         for (Mutant mutant : mutants) {
             runs.put(mutant, pool.submit(() -> failing(mutant, tests)));
         }
-        Map<String, Integer> seen = new HashMap<>();
+        Set<Integer> seen = new HashSet<>();
         int compiled = 0;
         int unseen = 0;
         for (Mutant mutant : runs.keySet()) {
-            List<String> failing;
+            List<Integer> failing;
             try {
                 failing = runs.get(mutant).get(SECONDS_EACH, TimeUnit.SECONDS);
             } catch (TimeoutException e) {
-                failing = List.of("it does not end");
+                failing = List.of(DOES_NOT_END);
             }
             if (failing == null) {
                 continue;
             }
             compiled++;
-            failing.forEach(name -> seen.merge(name, 1, Integer::sum));
+            seen.addAll(failing);
             if (failing.isEmpty()) {
                 unseen++;
                 System.out.println("no test sees " + mutant);
             }
         }
-        for (Said.Sentence sentence : Said.all()) {
-            if (!seen.containsKey(sentence.name())) {
-                System.out.println("always holds: " + sentence.name());
+        List<Said.Sentence> sentences = Said.all();
+        for (int i = 0; i < sentences.size(); i++) {
+            if (!seen.contains(i)) {
+                System.out.println("always holds: test " + i + ", " + sentences.get(i).name());
             }
         }
         System.out.println(compiled + " broken classes, " + unseen + " of them not seen");
     }
 
-    /** The sentences that fail; null, if it does not compile. */
-    private static List<String> failing(Mutant mutant, URL tests) throws Exception {
+    /** Which sentences' tests fail; null, if it does not compile. */
+    private static List<Integer> failing(Mutant mutant, URL tests) throws Exception {
         Map<String, byte[]> classes = compiled(mutant.source());
         if (classes == null) {
             return null;
         }
         try (URLClassLoader loader = new OneClass(tests, classes)) {
             Class<?> runner = loader.loadClass("Failing");
-            Object names = runner.getDeclaredMethod("names").invoke(null);
-            return List.of((String[]) names);
+            return List.of((Integer[]) runner.getDeclaredMethod("numbers").invoke(null));
         }
     }
 

@@ -165,6 +165,11 @@ final class TurnsTermsSaid extends Said {
             due.is("on REACH 3, behind 0 and 2", x.lag(2), 8);
             x.absent(1, true);
             due.is("on REACH 3, behind 0 and an ABSENT one", x.lag(1), 14);
+            CanalTurns y = on(0, 1, 2);
+            y.rule(ON);
+            y.pass(2);
+            due.is("on REACH 0, behind 2", y.lag(1), 0);
+            due.is("on REACH 1, behind 0, behind 2", y.lag(2), 2);
         });
         says("else 0.", due -> {
             due.is("on the same REACH", on(2, 2).lag(1), 0);
