@@ -14,7 +14,7 @@ public final class CanalTurns {
 
     private static final int REACHES = 4, FIELDS = 8, TRADES = 12;
     private static final int SEEN_ROWS = 5, PLAN_ROWS = 8, BOOK_ROWS = 8;
-    private static final int CLAUSES = 12, TEXT_BYTES = 100;
+    private static final int CLAUSES = 12, NUMBERS = 3, TEXT_BYTES = 100;
     private static final int TAPES = 6, TAPE_ITEMS = 60;
 
     private static final int MOST_FILL = 9, MOST_LOSS = 25, MOST_SHARE = 9;
@@ -102,7 +102,7 @@ public final class CanalTurns {
             case 2:
                 return canal.isAway(field) ? 1 : 0;
             case 3:
-                return turnsNow().have[field];
+                return turnsNow().hoursOf(field);
             case 4:
                 return turnsNow().startOf(field);
             case 5:
@@ -110,7 +110,7 @@ public final class CanalTurns {
             case 6:
                 return turnsNow().nightHours(field);
             case 7:
-                return turnsNow().have[field] * canal.keptOfHundred(field);
+                return turnsNow().hoursOf(field) * canal.keptOfHundred(field);
             case 8:
                 return turnsNow().placeOf(field);
             default:
@@ -214,7 +214,7 @@ public final class CanalTurns {
         if (!isWithin(h, 1, MOST_HOURS)) {
             return BAD;
         }
-        if (canal.isAway(a) || canal.isAway(b) || turnsNow().have[a] < h) {
+        if (canal.isAway(a) || canal.isAway(b) || turnsNow().hoursOf(a) < h) {
             return STATE;
         }
         return canal.trades.add(a, b, h);
@@ -272,7 +272,7 @@ public final class CanalTurns {
         int together = 0;
         for (int i = 0; i < n; i++) {
             turns.workOut(canal, canal.week + i, canal.weekHours, canal.ruleNow, i == 0);
-            together += what == 0 ? turns.have[field] : turns.nightHours(field);
+            together += what == 0 ? turns.hoursOf(field) : turns.nightHours(field);
         }
         return together;
     }
@@ -387,27 +387,22 @@ public final class CanalTurns {
     // ---- judging, the image, tapes
 
     public int judge(int tape, int i) {
-        if (!isWithin(tape, 0, TAPES - 1)) {
+        Tape row = tapeOf(tape);
+        if (row == null) {
             return NONE;
         }
-        Tape row = tapes[tape];
         if (row.sort != HOLDS_NOTHING && row.sort != BYTES) {
             return CAST;
         }
-        int fields = world.canal.size;
-        if (fields == 0) {
-            return NOT_ANY;
-        }
-        if (i < 0) {
-            return ROW_ENDED;
-        }
         Turns now = turnsNow();
-        for (int f = 0; f < fields; f++) {
-            // i is looked at by itself first: with f it may be beyond the greatest int.
-            if (i >= row.size || i + f >= row.size) {
+        // Without FIELDS none HAS otherwise, whatever the row holds and wherever i is.
+        for (int f = 0; f < now.fields; f++) {
+            // If i is no place of the row, this ends with FIELD 0: the sum is never beyond the greatest int.
+            int at = i + f;
+            if (!isWithin(at, 0, row.size - 1)) {
                 return ROW_ENDED + f;
             }
-            if (row.items[i + f] != now.have[f]) {
+            if (row.items[at] != now.hoursOf(f)) {
                 return f;
             }
         }
@@ -446,14 +441,15 @@ public final class CanalTurns {
     }
 
     public int tape(int tape, int sort, int n) {
-        if (!isWithin(tape, 0, TAPES - 1)) {
+        Tape row = tapeOf(tape);
+        if (row == null) {
             return NONE;
         }
         if (!isWithin(sort, HOLDS_NOTHING, BOOLEANS)) {
             return BAD;
         }
         if (sort == HOLDS_NOTHING) {
-            tapes[tape].become(HOLDS_NOTHING, 0);
+            row.become(HOLDS_NOTHING, 0);
             return 1;
         }
         if (n > TAPE_ITEMS) {
@@ -462,15 +458,15 @@ public final class CanalTurns {
         if (n < 0) {
             return SIZE;
         }
-        tapes[tape].become(sort, n);
+        row.become(sort, n);
         return 1;
     }
 
     public int item(int tape, int i, long v) {
-        if (!isWithin(tape, 0, TAPES - 1)) {
+        Tape row = tapeOf(tape);
+        if (row == null) {
             return NONE;
         }
-        Tape row = tapes[tape];
         if (row.sort == HOLDS_NOTHING) {
             return NOTHING;
         }
@@ -482,18 +478,19 @@ public final class CanalTurns {
     }
 
     public long peek(int tape, int i) {
-        if (!isWithin(tape, 0, TAPES - 1) || !isWithin(i, 0, tapes[tape].size - 1)) {
+        Tape row = tapeOf(tape);
+        if (row == null || !isWithin(i, 0, row.size - 1)) {
             return NO;
         }
-        return tapes[tape].items[i];
+        return row.items[i];
     }
 
     public int shift(int tape, int i, int other, int j, int n) {
-        if (!isWithin(tape, 0, TAPES - 1) || !isWithin(other, 0, TAPES - 1)) {
+        Tape from = tapeOf(tape);
+        Tape to = tapeOf(other);
+        if (from == null || to == null) {
             return NONE;
         }
-        Tape from = tapes[tape];
-        Tape to = tapes[other];
         if (from.sort == HOLDS_NOTHING || to.sort == HOLDS_NOTHING) {
             return NOTHING;
         }
@@ -511,6 +508,10 @@ public final class CanalTurns {
 
     private static boolean isWithin(int v, int least, int most) {
         return v >= least && v <= most;
+    }
+
+    private static boolean canBeField(int f) {
+        return isWithin(f, 0, FIELDS - 1);
     }
 
     private static boolean isBit(int bits, int i) {
@@ -541,6 +542,11 @@ public final class CanalTurns {
         return greater;
     }
 
+    /** null, if there is no such TAPE. */
+    private Tape tapeOf(int tape) {
+        return isWithin(tape, 0, TAPES - 1) ? tapes[tape] : null;
+    }
+
     private Turns turnsNow() {
         Canal canal = world.canal;
         turns.workOut(canal, canal.week, canal.weekHours, canal.ruleNow, true);
@@ -555,6 +561,9 @@ public final class CanalTurns {
     }
 
     private boolean isClauseDone(int k) {
+        if (!isWithin(k, 0, setUp.clauses - 1)) {
+            return false;
+        }
         Canal canal = world.canal;
         int a = setUp.numbers[0][k];
         int b = setUp.numbers[1][k];
@@ -586,11 +595,14 @@ public final class CanalTurns {
 
     private int bitsOfLess() {
         int weekHours = world.canal.weekHours;
-        System.arraycopy(turnsWere(weekHours).have, 0, tally, 0, FIELDS);
+        Turns asItIs = turnsWere(weekHours);
+        for (int f = 0; f < FIELDS; f++) {
+            tally[f] = asItIs.hoursOf(f);
+        }
         Turns more = turnsWere(weekHours + 1);
         int less = 0;
-        for (int f = 0; f < more.fields; f++) {
-            if (more.have[f] < tally[f]) {
+        for (int f = 0; f < FIELDS; f++) {
+            if (more.hoursOf(f) < tally[f]) {
                 less |= 1 << f;
             }
         }
@@ -637,8 +649,7 @@ public final class CanalTurns {
 
     private static int firstOtherwise(Rows rows, Turns as) {
         for (int k = 0; k < rows.size; k++) {
-            int f = rows.first[k];
-            if (as.have[f] != rows.second[k]) {
+            if (as.hoursOf(rows.first[k]) != rows.second[k]) {
                 return k;
             }
         }
@@ -757,10 +768,16 @@ public final class CanalTurns {
             return bits;
         }
 
+        /** -1, as if ahead of all REACHES, if there can be no such FIELD. */
+        int ownReach(int f) {
+            return canBeField(f) ? reachOfField[f] : -1;
+        }
+
         /** Of a hundred, what the LOSSES on the way to a FIELD leave. */
         int keptOfHundred(int f) {
+            int own = ownReach(f);
             int left = 100;
-            for (int r = 0; r <= reachOfField[f] && r < REACHES; r++) {
+            for (int r = 0; r <= own && r < REACHES; r++) {
                 left -= losses[r];
             }
             return left;
@@ -884,8 +901,8 @@ public final class CanalTurns {
         final int[] standing = new int[FIELDS];
         final int[] order = new int[FIELDS];
         final int[] lags = new int[FIELDS];
-        final int[] have = new int[FIELDS];
         final int[] parts = new int[FIELDS];
+        private final int[] have = new int[FIELDS];
         private final int[] rests = new int[FIELDS];
         private final int[] places = new int[FIELDS];
         private final int[] starts = new int[FIELDS];
@@ -928,13 +945,20 @@ public final class CanalTurns {
                 places[f] = NOT_ANY;
             }
             for (int k = 0; k < fields; k++) {
-                int f = standing[comesAt(k, week, byRule)];
-                if (!canal.isAway(f)) {
-                    order[count] = f;
-                    places[f] = count;
-                    count++;
+                int at = comesAt(k, week, byRule);
+                if (isWithin(at, 0, FIELDS - 1)) {
+                    takeTurn(canal, standing[at]);
                 }
             }
+        }
+
+        private void takeTurn(Canal canal, int f) {
+            if (!canBeField(f) || canal.isAway(f) || count >= FIELDS) {
+                return;
+            }
+            order[count] = f;
+            places[f] = count;
+            count++;
         }
 
         /** Where in the LINE the one stands that comes at k, those that are ABSENT counted too. */
@@ -959,7 +983,7 @@ public final class CanalTurns {
             // Ahead of the first TURN no REACH is full: as if the TURN ahead were ahead of REACH 0.
             int ahead = -1;
             for (int k = 0; k < count; k++) {
-                int own = canal.reachOfField[order[k]];
+                int own = canal.ownReach(order[k]);
                 int lag = 0;
                 for (int r = ahead + 1; r <= own && r < REACHES; r++) {
                     lag += canal.fills[r];
@@ -1030,37 +1054,48 @@ public final class CanalTurns {
 
         private void moveTraded(Rows trades) {
             for (int k = 0; k < trades.size; k++) {
-                have[trades.first[k]] -= trades.third[k];
-                have[trades.second[k]] += trades.third[k];
+                addHours(trades.first[k], -trades.third[k]);
+                addHours(trades.second[k], trades.third[k]);
+            }
+        }
+
+        private void addHours(int f, int h) {
+            if (canBeField(f)) {
+                have[f] += h;
             }
         }
 
         private void setTimes() {
             int t = 0;
             for (int k = 0; k < count; k++) {
-                int f = order[k];
                 t += lags[k];
-                starts[f] = t;
-                t += have[f];
-                stops[f] = t;
+                starts[k] = t;
+                t += hoursOf(order[k]);
+                stops[k] = t;
             }
         }
 
+        int hoursOf(int f) {
+            return canBeField(f) ? have[f] : 0;
+        }
+
         int placeOf(int f) {
-            return places[f];
+            return canBeField(f) ? places[f] : NOT_ANY;
         }
 
         int startOf(int f) {
-            return places[f] == NOT_ANY ? NOT_ANY : starts[f];
+            int k = placeOf(f);
+            return isWithin(k, 0, count - 1) ? starts[k] : NOT_ANY;
         }
 
         int stopOf(int f) {
-            return places[f] == NOT_ANY ? NOT_ANY : stops[f];
+            int k = placeOf(f);
+            return isWithin(k, 0, count - 1) ? stops[k] : NOT_ANY;
         }
 
         int fieldAt(int t) {
             for (int k = 0; k < count; k++) {
-                if (t >= starts[order[k]] && t < stops[order[k]]) {
+                if (t >= starts[k] && t < stops[k]) {
                     return order[k];
                 }
             }
@@ -1068,11 +1103,10 @@ public final class CanalTurns {
         }
 
         int nightHours(int f) {
-            if (places[f] == NOT_ANY) {
-                return 0;
-            }
             int byNight = 0;
-            for (int t = starts[f]; t < stops[f]; t++) {
+            int stop = stopOf(f);
+            // An ABSENT one both BEGINS and ENDS at -5 here, so it has none.
+            for (int t = startOf(f); t < stop; t++) {
                 int clock = (clockAtStart + t) % DAY;
                 if (clock >= NIGHT_FROM || clock < NIGHT_UNTIL) {
                     byNight++;
@@ -1111,7 +1145,7 @@ public final class CanalTurns {
         private final byte[] text = new byte[TEXT_BYTES];
         int size = 0;
         final int[] letters = new int[CLAUSES];
-        final int[][] numbers = new int[3][CLAUSES];
+        final int[][] numbers = new int[NUMBERS][CLAUSES];
         int clauses = 0;
         private int at = 0;
 
@@ -1149,7 +1183,7 @@ public final class CanalTurns {
 
         /** If not, the FAULT is where it stays. */
         private boolean isClauseRead(int k) {
-            if (at >= size) {
+            if (at >= size || !isWithin(k, 0, CLAUSES - 1)) {
                 return false;
             }
             int letter = text[at];
@@ -1159,15 +1193,13 @@ public final class CanalTurns {
             }
             letters[k] = letter;
             at++;
-            for (int i = 0; i < howMany; i++) {
-                if (!isDigit()) {
+            for (int i = 0; i < howMany && i < NUMBERS; i++) {
+                int number = nextDigit();
+                if (number < 0) {
                     return false;
                 }
-                numbers[i][k] = nextDigit();
-            }
-            int last = howMany - 1;
-            if (isLastLong(letter) && isDigit()) {
-                numbers[last][k] = numbers[last][k] * 10 + nextDigit();
+                boolean isLong = isLastLong(letter) && i == howMany - 1;
+                numbers[i][k] = isLong ? withNextDigit(number) : number;
             }
             return true;
         }
@@ -1193,14 +1225,19 @@ public final class CanalTurns {
             return letter == 'c' || letter == 'h';
         }
 
-        private boolean isDigit() {
-            return at < size && text[at] >= '0' && text[at] <= '9';
+        /** -1, and no step on, if none stands there. */
+        private int nextDigit() {
+            int sign = at < size ? text[at] : 0;
+            if (sign < '0' || sign > '9') {
+                return -1;
+            }
+            at++;
+            return sign - '0';
         }
 
-        private int nextDigit() {
-            int digit = text[at] - '0';
-            at++;
-            return digit;
+        private int withNextDigit(int number) {
+            int digit = nextDigit();
+            return digit < 0 ? number : number * 10 + digit;
         }
     }
 

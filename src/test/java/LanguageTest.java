@@ -1,10 +1,8 @@
-import java.nio.file.Files;
-import java.nio.file.Path;
 import java.util.List;
 import java.util.regex.Matcher;
 import java.util.regex.Pattern;
 
-/** What of LANGUAGE.md can be seen in the words of the file. Runs where .ci/run runs it: at the project's root. */
+/** What of LANGUAGE.md can be seen in the words of the file. */
 public final class LanguageTest {
     private static final String[] FORBIDDEN = {"\\bthrow\\b", "\\bthrows\\b", "\\btry\\b", "\\bcatch\\b",
         "\\bfinally\\b", "\\bsynchronized\\b", "\\bassert\\b", "\\bimport\\b", "\\bpackage\\b", "->", "::",
@@ -16,12 +14,12 @@ public final class LanguageTest {
 
     public static void main(String[] args) throws Exception {
         Due due = new Due();
-        Path file = Path.of("src/main/java/CanalTurns.java");
-        byte[] bytes = Files.readAllBytes(file);
-        for (byte b : bytes) {
-            due.holds("a sign of 1 to 127", b > 0);
+        List<String> lines = Source.lines();
+        String file = String.join("\n", lines);
+        for (int i = 0; i < file.length(); i++) {
+            due.holds("a sign of 1 to 127", file.charAt(i) > 0 && file.charAt(i) < 128);
         }
-        String code = new String(bytes, "US-ASCII").replaceAll("(?s)/\\*.*?\\*/", "").replaceAll("//[^\n]*", "");
+        String code = Source.withoutComments(file);
         for (String word : FORBIDDEN) {
             Matcher m = Pattern.compile(word).matcher(code);
             due.holds("the file has " + word, !m.find());
@@ -30,28 +28,18 @@ public final class LanguageTest {
         while (m.find()) {
             due.holds("the library: " + m.group(), List.of(LIBRARY).contains(m.group()));
         }
-        lengths(due, Files.readAllLines(file));
+        lengths(due, lines);
         due.end();
     }
 
-    /** Methods of the class stand 4 in, those of the classes inside 8 in. */
     private static void lengths(Due due, List<String> lines) {
-        int methods = 0;
         for (int i = 0; i < lines.size(); i++) {
-            String line = lines.get(i);
-            due.holds("line " + (i + 1) + " is too long", line.length() <= 120);
-            boolean isMethod = line.matches("( {4}| {8})[A-Za-z].*\\(.*\\) \\{")
-                && !line.matches(" *(if|for|while|switch)\\b.*");
-            if (isMethod) {
-                methods++;
-                String end = line.replaceAll("^( *).*", "$1}");
-                int last = i;
-                while (last < lines.size() && !lines.get(last).equals(end)) {
-                    last++;
-                }
-                due.holds("lines " + (i + 1) + " to " + (last + 1) + " are a long method", last - i < 60);
-            }
+            due.holds("line " + (i + 1) + " is too long", lines.get(i).length() <= 120);
         }
-        due.holds("methods were found", methods > 80);
+        List<Source.Method> methods = Source.methods(lines);
+        for (Source.Method method : methods) {
+            due.holds(method.name() + " are a long method", method.lastLine() - method.firstLine() < 60);
+        }
+        due.holds("methods were found", methods.size() > 80);
     }
 }

@@ -156,6 +156,14 @@ final class TurnsTermsSaid extends Said {
             x.renew(1, 0, 3);
             due.is("the first, all FILLS 9", x.lag(0), 36);
         });
+        says("of the first FILLS of all REACHES from 0 up to its own, together;", due -> {
+            for (int f = 0; f < 8; f++) {
+                CanalTurns x = on(1, 1, 1, 1, 1, 1, 1, 1);
+                x.renew(f, 0, 0);
+                due.is("FIELD " + f + " nearest to the head", x.lag(0), 1);
+                due.is("the next one", x.lag(1), 2);
+            }
+        });
         says("of another one, if its REACH is further than that of the TURN ahead, FILLS of those behind that one's "
             + "up to its own, together;", due -> {
             due.is("on REACH 1, behind 0", on(0, 1).lag(1), 2);
@@ -286,6 +294,17 @@ final class TurnsTermsSaid extends Said {
             y.trade(0, 1, 12);
             haveAre(due, y, 0, 24, 0);
         });
+        says("each take hours from one FIELD to another.", due -> {
+            CanalTurns x = Setups.flat(1, 1, 1, 1, 1, 1, 1, 1);
+            for (int f = 0; f < 8; f++) {
+                int next = (f + 1) % 8;
+                due.is("TRADE of FIELD " + f, x.trade(f, next, 2), 1);
+                due.is("it HAS", x.of(f, 3), 1);
+                due.is("the next one HAS", x.of(next, 3), 5);
+                due.is("all HAVE", x.told(6), 24);
+                x.undoTrade();
+            }
+        });
     }
 
     private void times() {
@@ -369,6 +388,12 @@ final class TurnsTermsSaid extends Said {
             due.is("WATER, none lost", x.of(0, 7), 2400);
             x.absent(0, true);
             due.is("WATER without hours", x.of(0, 7), 0);
+        });
+        says("LOSSES of all REACHES from 0 up to its own, together).", due -> {
+            CanalTurns x = Setups.flat(1, 1, 1, 1, 1, 1, 1, 1);
+            for (int f = 0; f < 8; f++) {
+                due.is("WATER of FIELD " + f, x.of(f, 7), 3 * 95);
+            }
         });
     }
 }
